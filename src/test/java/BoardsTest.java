@@ -23,29 +23,6 @@ public final class BoardsTest {
         Due.end("BoardsTest");
     }
 
-    /** Strips of length 0.5, with places at whole eighths; laid flat their height is 1, 2, 4, .. */
-    private static PlankUnroll strips(int rows) {
-        PlankUnroll x = new PlankUnroll(2, rows);
-        for (int row = 0; row < rows; row++) {
-            x.point(0, row, 0, row, 0);
-            x.point(1, row, 0.5, row, 0);
-        }
-        for (int s = 0; s < rows - 1; s++) {
-            x.unroll(s);
-        }
-        return x;
-    }
-
-    private static double length(PlankUnroll x, int strip, int corners, int axis) {
-        double least = x.flat(strip, 0, axis);
-        double greatest = least;
-        for (int c = 1; c < corners; c++) {
-            least = Math.min(least, x.flat(strip, c, axis));
-            greatest = Math.max(greatest, x.flat(strip, c, axis));
-        }
-        return greatest - least;
-    }
-
     private static void boards() {
         PlankUnroll x = new PlankUnroll(2, 2);
         Due.due("the least", 0, () -> x.board(1, 1));
@@ -108,9 +85,9 @@ public final class BoardsTest {
     }
 
     private static void nestAlong() {
-        PlankUnroll x = strips(8);
+        PlankUnroll x = Hulls.strips(8);
         Due.due("a board", 0, () -> x.board(3, 1.5));
-        Due.same("a strip's length", 0.5, length(x, 0, 4, 0));
+        Due.same("a strip's length", 0.5, Hulls.extent(x, 0, 4, 0));
         for (int s = 0; s < 6; s++) {
             int strip = 6 - s;
             int due = 4 * s;
@@ -125,7 +102,7 @@ public final class BoardsTest {
     }
 
     private static void nestBesideFaults() {
-        PlankUnroll x = strips(4);
+        PlankUnroll x = Hulls.strips(4);
         x.board(100, 2);
         x.fault(0, 1.4375, 0, 1.25, 0.125);
         x.fault(0, 0.25, 0.5, 0.25, 1);
@@ -134,20 +111,20 @@ public final class BoardsTest {
         Due.due("behind the fault at 0.25, touching it", 4, () -> x.nest(0, 2));
         Due.due("behind the fault at 1.4375", 22, () -> x.nest(0, 0));
         Due.due("behind both", 26, () -> x.nest(0, 1));
-        PlankUnroll before = strips(2);
+        PlankUnroll before = Hulls.strips(2);
         before.board(100, 2);
         before.fault(0, 0.5, 0, 1, 1);
         Due.due("before a fault, touching it", 0, () -> before.nest(0, 0));
-        PlankUnroll barred = strips(2);
+        PlankUnroll barred = Hulls.strips(2);
         barred.board(100, 2);
         barred.fault(0, 0.49999, 0, 99.5, 1);
         Due.due("no room before it or behind it", -1, () -> barred.nest(0, 0));
-        PlankUnroll over = strips(2);
+        PlankUnroll over = Hulls.strips(2);
         over.board(10, 10);
         over.fault(0, 0, 0, 9.5, 1);
         over.fault(0, 1000, 0, 1000, 1000);
         Due.due("at the board's end", 76, () -> over.nest(0, 0));
-        PlankUnroll late = strips(2);
+        PlankUnroll late = Hulls.strips(2);
         late.board(10, 10);
         late.nest(0, 0);
         Due.due("a fault where a strip lies", true, () -> late.fault(0, 0, 0, 1, 1));
@@ -155,12 +132,12 @@ public final class BoardsTest {
     }
 
     private static void nestAcross() {
-        PlankUnroll x = strips(2);
-        double height = length(x, 0, 4, 1);
+        PlankUnroll x = Hulls.strips(2);
+        double height = Hulls.extent(x, 0, 4, 1);
         x.board(10, 2);
         x.fault(0, 0, height, 10, 1);
         Due.due("a fault that is touched across", 0, () -> x.nest(0, 0));
-        PlankUnroll y = strips(2);
+        PlankUnroll y = Hulls.strips(2);
         y.board(10, 2);
         y.fault(0, 0, Math.nextDown(height), 5, 1);
         Due.due("a fault that is overlapped across", 40, () -> y.nest(0, 0));
@@ -172,8 +149,8 @@ public final class BoardsTest {
         x.point(1, 0, 3, 0, 0);
         x.point(1, 1, 3, 4, 0);
         x.unroll(0);
-        double w = length(x, 0, 4, 0);
-        double h = length(x, 0, 4, 1);
+        double w = Hulls.extent(x, 0, 4, 0);
+        double h = Hulls.extent(x, 0, 4, 1);
         x.board(Math.nextDown(w), 10);
         x.board(10, Math.nextDown(h));
         x.board(w, h);
@@ -185,7 +162,7 @@ public final class BoardsTest {
         below.point(1, 0, 3, -2, 0);
         below.point(1, 1, 3, 1, 0);
         below.unroll(0);
-        double high = length(below, 0, 4, 1);
+        double high = Hulls.extent(below, 0, 4, 1);
         Due.same("it goes below 0 and is higher than its corners say from 0 on", true, high > 5.9);
         below.board(3.5, 5);
         below.board(3.5, 6.5);
@@ -202,8 +179,8 @@ public final class BoardsTest {
         x.point(1, 1, -3, 8, 0);
         x.unroll(0);
         Due.same("it goes to the left", true, x.flat(0, 3, 0) < -2.9);
-        double wide = length(x, 0, 4, 0);
-        double tall = length(x, 0, 4, 1);
+        double wide = Hulls.extent(x, 0, 4, 0);
+        double tall = Hulls.extent(x, 0, 4, 1);
         x.board(Math.nextDown(wide), tall);
         x.board(wide, Math.nextDown(tall));
         x.board(wide, tall);
@@ -213,16 +190,16 @@ public final class BoardsTest {
     }
 
     private static void nestBetweenEighths() {
-        PlankUnroll x = strips(3);
+        PlankUnroll x = Hulls.strips(3);
         x.board(1.0625, 2);
         x.fault(0, 0, 0, 0.5, 1);
         Due.due("k / 8 and no more", 4, () -> x.nest(0, 0));
         Due.due("none for the other", -1, () -> x.nest(0, 1));
-        PlankUnroll y = strips(2);
+        PlankUnroll y = Hulls.strips(2);
         y.board(1.0625, 2);
         y.fault(0, 0, 0, 0.5625, 1);
         Due.due("it would lie at 4.5 eighths", -1, () -> y.nest(0, 0));
-        PlankUnroll z = strips(2);
+        PlankUnroll z = Hulls.strips(2);
         z.board(1000, 2);
         z.fault(0, 0, 0, 999.5, 1);
         Due.due("the last k of the longest board", 7996, () -> z.nest(0, 0));
@@ -234,7 +211,7 @@ public final class BoardsTest {
         x.point(0, 1, 0, 2, 0);
         x.point(1, 1, 0, 2, 0);
         x.unroll(0);
-        Due.same("no length", 0.0, length(x, 0, 4, 0));
+        Due.same("no length", 0.0, Hulls.extent(x, 0, 4, 0));
         x.board(2, 3);
         x.fault(0, 0, 0, 1, 1);
         Due.due("at the fault's first edge", 0, () -> x.nest(0, 0));
@@ -268,7 +245,7 @@ public final class BoardsTest {
     }
 
     private static void nestNone() {
-        PlankUnroll x = strips(2);
+        PlankUnroll x = Hulls.strips(2);
         x.board(1, 1);
         x.board(1, 2);
         x.fault(0, 0, 0, 1, 1);
@@ -279,7 +256,7 @@ public final class BoardsTest {
     }
 
     private static void nestOnTwoBoards() {
-        PlankUnroll x = strips(5);
+        PlankUnroll x = Hulls.strips(5);
         x.board(10, 2);
         x.board(10, 2);
         Due.due("first on board 1", 0, () -> x.nest(1, 3));
@@ -291,7 +268,7 @@ public final class BoardsTest {
     }
 
     private static void liesThrows() {
-        PlankUnroll x = strips(3);
+        PlankUnroll x = Hulls.strips(3);
         for (int none : NONE_SUCH) {
             Due.due("strip " + none, Due.INDEX, () -> x.lies(none, 0));
             Due.due("what " + none, Due.INDEX, () -> x.lies(0, none));

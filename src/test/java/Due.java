@@ -16,13 +16,26 @@ final class Due {
 
     /** The due answer is a Boolean, an Integer, a Double, or the class of an exception, just that one. */
     static void due(String call, Object want, Call asking) {
-        Object got;
+        same(call, want, answerOf(asking));
+    }
+
+    /** A call that is not refused, whatever it answers. */
+    static void taken(String call, Call asking) {
+        Object got = answerOf(asking);
+        same(call + " is taken", "an answer", isAnswer(got) ? "an answer" : got);
+    }
+
+    /** What a call answers, or the class of the exception that it throws. */
+    static Object answerOf(Call asking) {
         try {
-            got = asking.answer();
+            return asking.answer();
         } catch (RuntimeException e) {
-            got = thrownByTheClass(e) ? e.getClass() : "a throw of the machine or its library: " + e;
+            return thrownByTheClass(e) ? e.getClass() : "a throw of the machine or its library: " + e;
         }
-        same(call, want, got);
+    }
+
+    private static boolean isAnswer(Object got) {
+        return got instanceof Boolean || got instanceof Integer || got instanceof Double;
     }
 
     /** The class throws for itself: an index that a list or an array finds wrong is a fault. */

@@ -17,20 +17,9 @@ public final class UnrollTest {
         Due.end("UnrollTest");
     }
 
-    /** Rows 0 .. 2 that are 4 apart, frames 3 apart, in one plane. */
-    private static PlankUnroll grid(int frames) {
-        PlankUnroll x = new PlankUnroll(frames, 3);
-        for (int f = 0; f < frames; f++) {
-            for (int row = 0; row < 3; row++) {
-                x.point(f, row, 3 * f, 4 * row, 0);
-            }
-        }
-        return x;
-    }
-
     private static void triangles() {
         for (int frames = 2; frames <= 8; frames++) {
-            PlankUnroll x = grid(frames);
+            PlankUnroll x = Hulls.grid(frames, 3);
             int due = 2 * frames - 2;
             Due.due("unroll of " + frames + " frames", due, () -> x.unroll(0));
             Due.due("once more", due, () -> x.unroll(0));
@@ -47,7 +36,7 @@ public final class UnrollTest {
     }
 
     private static void flatCorners() {
-        PlankUnroll x = grid(4);
+        PlankUnroll x = Hulls.grid(4, 3);
         x.unroll(1);
         for (int f = 0; f < 4; f++) {
             near("x of a " + f, 3 * f, x.flat(1, 2 * f, 0));
@@ -81,7 +70,7 @@ public final class UnrollTest {
 
     private static void tooNear() {
         double edge = 1.0 / 1024;
-        PlankUnroll x = grid(2);
+        PlankUnroll x = Hulls.grid(2, 3);
         x.point(0, 0, 0, 4 - edge, 0);
         Due.due("corners 1 / 1024 apart", 2, () -> x.unroll(0));
         x.point(0, 0, 0, 0, 0);
@@ -92,17 +81,17 @@ public final class UnrollTest {
         Due.due("unrolled in vain once more", Due.STATE, () -> x.unroll(0));
         Due.due("the other strip stays unrolled", 0.0, () -> x.flat(1, 0, 0));
         // Corners 0 and 1 are far apart, but a of frame 1 is b of frame 0: corner 3 can't be put.
-        PlankUnroll y = grid(2);
+        PlankUnroll y = Hulls.grid(2, 3);
         y.point(1, 0, 0, 4, 0);
         Due.due("a of frame 1 on b of frame 0", Due.STATE, () -> y.unroll(0));
         // Corners 2 and 3 fall together: a cell more can't be put.
-        PlankUnroll z = grid(3);
+        PlankUnroll z = Hulls.grid(3, 3);
         z.point(1, 1, 3, 0, 0);
         Due.due("b of frame 1 on a", Due.STATE, () -> z.unroll(0));
     }
 
     private static void notUnrolled() {
-        PlankUnroll x = grid(3);
+        PlankUnroll x = Hulls.grid(3, 3);
         Due.due("flat", Due.STATE, () -> x.flat(0, 0, 0));
         Due.due("stretch", Due.STATE, () -> x.stretch(0, 0));
         Due.due("worst", Due.STATE, () -> x.worst(0));
@@ -115,7 +104,7 @@ public final class UnrollTest {
     }
 
     private static void flatThrows() {
-        PlankUnroll x = grid(3);
+        PlankUnroll x = Hulls.grid(3, 3);
         x.unroll(0);
         Due.due("the last corner", true, () -> x.flat(0, 5, 1) > 3.9);
         for (int none : NO_STRIP) {
@@ -148,7 +137,7 @@ public final class UnrollTest {
         double dy = x.flat(0, 3, 1) - x.flat(0, 0, 1);
         near("stretch", Math.sqrt(dx * dx + dy * dy) - Math.sqrt(34), x.stretch(0, 0));
         Due.due("it is above 0", true, () -> x.stretch(0, 0) > 0.01);
-        PlankUnroll flat = grid(8);
+        PlankUnroll flat = Hulls.grid(8, 3);
         flat.unroll(0);
         for (int cell = 0; cell < 7; cell++) {
             near("stretch of a plane's cell " + cell, 0, flat.stretch(0, cell));
@@ -156,7 +145,7 @@ public final class UnrollTest {
     }
 
     private static void stretchThrows() {
-        PlankUnroll x = grid(3);
+        PlankUnroll x = Hulls.grid(3, 3);
         x.unroll(0);
         for (int none : NO_STRIP) {
             Due.due("strip " + none, Due.INDEX, () -> x.stretch(none, 0));
@@ -178,7 +167,7 @@ public final class UnrollTest {
     }
 
     private static void worstCells() {
-        PlankUnroll one = grid(2);
+        PlankUnroll one = Hulls.grid(2, 3);
         one.unroll(0);
         Due.due("of one cell", 0, () -> one.worst(0));
         PlankUnroll still = new PlankUnroll(8, 2);
@@ -224,7 +213,7 @@ public final class UnrollTest {
     }
 
     private static void worstThrows() {
-        PlankUnroll x = grid(3);
+        PlankUnroll x = Hulls.grid(3, 3);
         for (int none : NO_STRIP) {
             Due.due("strip " + none, Due.INDEX, () -> x.worst(none));
         }
@@ -273,7 +262,7 @@ public final class UnrollTest {
     }
 
     private static void bevelThrows() {
-        PlankUnroll x = grid(3);
+        PlankUnroll x = Hulls.grid(3, 3);
         for (int none : NO_STRIP) {
             Due.due("strip " + none, Due.INDEX, () -> x.bevel(none, 0));
             Due.due("cell " + none, Due.INDEX, () -> x.bevel(0, none));
