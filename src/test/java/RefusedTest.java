@@ -66,8 +66,11 @@ public final class RefusedTest {
                 }
             }
             x.point(1, ROWS - 1, 1.25, 3, 0.5);
+            // At the first frame and at the last one, of one strip and not of another one.
             x.butt(0, 0, true);
             x.butt(1, 2, true);
+            x.butt(2, 0, true);
+            x.butt(2, 2, true);
         }
         if (reached(State.UNROLLED)) {
             x.unroll(0);
@@ -110,8 +113,11 @@ public final class RefusedTest {
             index("distance, frame2 " + no, x -> x.distance(0, 0, no, 0));
             index("width at frame " + no, x -> x.width(0, no));
             index("girth of frame " + no, x -> x.girth(no));
-            index("butt at frame " + no, x -> x.butt(1, no, true));
-            index("no butt at frame " + no, x -> x.butt(1, no, false));
+            for (int s = 0; s < ROWS - 1; s++) {
+                int strip = s;
+                index("butt of strip " + s + " at frame " + no, x -> x.butt(strip, no, true));
+                index("no butt of strip " + s + " at frame " + no, x -> x.butt(strip, no, false));
+            }
         }
         for (int no : NO_ROW) {
             index("point, row " + no, x -> x.point(1, no, 7, 7, 7));
@@ -136,8 +142,11 @@ public final class RefusedTest {
             index("worst of strip " + no, x -> x.worst(no));
             index("bevel of strip " + no, x -> x.bevel(no, 0));
             index("width of strip " + no, x -> x.width(no, 0));
-            index("butt of strip " + no, x -> x.butt(no, 1, true));
-            index("no butt of strip " + no, x -> x.butt(no, 0, false));
+            for (int f = 0; f < FRAMES; f++) {
+                int frame = f;
+                index("butt of strip " + no + " at frame " + f, x -> x.butt(no, frame, true));
+                index("no butt of strip " + no + " at frame " + f, x -> x.butt(no, frame, false));
+            }
             index("lies of strip " + no, x -> x.lies(no, 0));
         }
         for (int no : NO_CORNER) {
@@ -237,6 +246,8 @@ public final class RefusedTest {
             Due.due(state + ": in turn, " + each.call, each.due, () -> each.asked.of(all));
         }
         Due.same(state + ": after all of them", due, held(all));
+        // What an object answers after its 512th call is free: 40 is more than any state takes to be made.
+        Due.same(state + ": no object was asked too often", true, refusals.size() + due.size() + 40 <= 512);
     }
 
     private static void ask(List<Object> answers, Due.Call asked) {

@@ -423,17 +423,26 @@ public final class TermsTest {
 
     /** "GIRTH of a frame the sum of WIDTHS of all strips, in turn": from strip 0 on, the last one too. */
     private static void girthFromTheFirst() {
+        int other = 0;
         for (int rows = 2; rows <= 8; rows++) {
-            PlankUnroll x = new PlankUnroll(2, rows);
-            double due = 0;
-            for (int row = 1; row < rows; row++) {
-                x.point(1, row, row * row / 3.0, -row / 7.0, row % 3);
-                due = due + x.distance(1, row - 1, 1, row);
+            for (int n = 1; n <= 20; n++) {
+                PlankUnroll x = new PlankUnroll(2, rows);
+                double due = 0;
+                for (int row = 1; row < rows; row++) {
+                    x.point(1, row, row * row / (n + 2.0), -row / 7.0, row % 3);
+                    due = due + x.width(row - 1, 1);
+                }
+                double last = 0;
+                for (int row = rows - 1; row > 0; row--) {
+                    last = last + x.width(row - 1, 1);
+                }
+                double sum = due;
+                other += last != sum ? 1 : 0;
+                Due.due("girth of " + rows + " rows", sum, () -> x.girth(1));
+                Due.due("girth of no widths", 0.0, () -> x.girth(0));
             }
-            double sum = due;
-            Due.due("girth of " + rows + " rows", sum, () -> x.girth(1));
-            Due.due("girth of no widths", 0.0, () -> x.girth(0));
         }
+        Due.same("some girths depend on the turn: " + other, true, other > 10);
     }
 
     /** "They KEEP a span n, if no two of one strip are fewer than 2 n frames apart". */
