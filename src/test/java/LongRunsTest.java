@@ -9,6 +9,10 @@ public final class LongRunsTest {
         Double.NaN, -0.0, 0, -1, 1000, -1000, 1000.125, -1000.125, 0.125, 0.1, 1, 0.999, 1e-100, 1e-200, 1.0 / 1024,
         Double.POSITIVE_INFINITY
     };
+    /** Far apart, or so near that a strip can just be unrolled or just not. */
+    private static final double[] ENDS = {
+        -1000, 1000, 0, 0, 1.0 / 1024, 2.0 / 1024, 0.00098, 1e-5, 1e-10, 1e-80, 0.3, 999.9990234375, 999.99902
+    };
 
     private static long seed;
     private static final Map<String, Integer> SEEN = new TreeMap<>();
@@ -17,12 +21,12 @@ public final class LongRunsTest {
     private final PlainPlanks plain;
     private final int frames;
     private final int rows;
-    /** 0: a plane grid, 1: a hull, 2: any places. */
+    /** 0: a plane grid, 1: a hull, 2: any places, 3: places at the ends of what they may be. */
     private final int kind;
 
     private LongRunsTest(int run) {
         seed = run * 7919L + 17;
-        kind = below(3);
+        kind = below(4);
         frames = below(8) == 0 ? below(14) - 2 : 2 + below(7);
         rows = below(8) == 0 ? below(14) - 2 : 2 + below(7);
         x = new PlankUnroll(frames, rows);
@@ -78,9 +82,20 @@ public final class LongRunsTest {
     }
 
     private void place(int f, int row) {
+        if (kind == 3) {
+            placeAtTheEnds(f, row, below(2) == 0);
+            return;
+        }
         double px = f * 2 + (kind == 2 ? number(40) : kind == 1 ? row / 8.0 : below(5) / 8.0);
         double py = row * 1.5 + (kind == 2 ? -number(40) : kind == 1 ? -f * row / 16.0 : below(5) / 8.0);
         double pz = kind == 0 ? 0 : kind == 1 ? (f * f - row * row) / 8.0 : number(30);
+        ask("point", plain.point(f, row, px, py, pz), () -> x.point(f, row, px, py, pz));
+    }
+
+    private void placeAtTheEnds(int f, int row, boolean onALine) {
+        double px = ENDS[below(ENDS.length)];
+        double py = onALine ? row : ENDS[below(ENDS.length)];
+        double pz = onALine ? 0 : ENDS[below(ENDS.length)];
         ask("point", plain.point(f, row, px, py, pz), () -> x.point(f, row, px, py, pz));
     }
 

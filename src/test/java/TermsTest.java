@@ -17,6 +17,7 @@ public final class TermsTest {
         distanceFromTheLeft();
         firstTwoCorners();
         putFromTheLeft();
+        putInTurn();
         leastOfTheFirstPut();
         for (int frames = 2; frames <= 8; frames++) {
             for (int strip = 0; strip < 2; strip++) {
@@ -203,6 +204,41 @@ public final class TermsTest {
         Due.same("some depend on * before / " + divided, true, divided > 20);
         Due.same("some depend on the turn of + " + added, true, added > 20);
         Due.same("some depend on the turn of - " + taken, true, taken > 3);
+    }
+
+    /** "corner 2 f is PUT from corners 2 f - 2 and 2 f - 1 ..; corner 2 f + 1 from corners 2 f and 2 f - 1 ..". */
+    private static void putInTurn() {
+        for (int frames = 2; frames <= 8; frames++) {
+            PlankUnroll x = new PlankUnroll(frames, 3);
+            for (int f = 0; f < frames; f++) {
+                for (int row = 0; row < 3; row++) {
+                    x.point(f, row, 2.3 * f + row / 7.0, 3.1 * row - f * f / 9.0, (row * f - f) / 5.0);
+                }
+            }
+            for (int s = 0; s < 2; s++) {
+                x.unroll(s);
+                for (int f = 1; f < frames; f++) {
+                    double alongA = x.distance(f - 1, s, f, s);
+                    double diagonal = x.distance(f - 1, s + 1, f, s);
+                    double across = x.distance(f, s, f, s + 1);
+                    double alongB = x.distance(f - 1, s + 1, f, s + 1);
+                    putFrom(x, s, 2 * f, 2 * f - 2, 2 * f - 1, alongA, diagonal);
+                    putFrom(x, s, 2 * f + 1, 2 * f, 2 * f - 1, across, alongB);
+                }
+            }
+        }
+    }
+
+    private static void putFrom(PlankUnroll x, int strip, int corner, int p, int q, double r, double s) {
+        double vx = x.flat(strip, q, 0) - x.flat(strip, p, 0);
+        double vy = x.flat(strip, q, 1) - x.flat(strip, p, 1);
+        double c = Hulls.root(vx * vx + vy * vy);
+        double t = (r * r - s * s + c * c) / (2 * c);
+        double h = Hulls.root(r * r - t * t);
+        double dueX = x.flat(strip, p, 0) + t * vx / c + h * vy / c;
+        double dueY = x.flat(strip, p, 1) + t * vy / c - h * vx / c;
+        Due.due("x of corner " + corner + ", strip " + strip, dueX, () -> x.flat(strip, corner, 0));
+        Due.due("y of corner " + corner + ", strip " + strip, dueY, () -> x.flat(strip, corner, 1));
     }
 
     /** "If c is below 1 / 1024, the strip can't be UNROLLED": just so much is enough, the next number below is not. */
